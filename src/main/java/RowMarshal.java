@@ -821,8 +821,10 @@ public final class RowMarshal {
 
         /** The leading 1 is added onto the exponent, so that rounding up may carry into it. */
         private static long composed(int kind, long units, int exponent) {
-            long biased = exponent + (kind == FLOAT ? FLOAT_BIAS : DOUBLE_BIAS);
-            return (biased - 1 << digitsOf(kind) - 1) + units;
+            if (kind == FLOAT) {
+                return ((exponent + FLOAT_BIAS - 1L) << (FLOAT_DIGITS - 1)) + units;
+            }
+            return ((exponent + DOUBLE_BIAS - 1L) << (DOUBLE_DIGITS - 1)) + units;
         }
 
         /** The number (0 .. 63) of the highest bit that is set. */
@@ -1293,12 +1295,13 @@ public final class RowMarshal {
                     widestStep = Math.max(widestStep, Numbers.width(cells[i] - cells[i - 1]));
                 }
             }
-            take(PLAIN, widest, NO_SUCH, 1 + n * widest);
+            size = Integer.MAX_VALUE;
+            offer(PLAIN, widest, NO_SUCH, 1 + n * widest);
             if (n >= 2) {
                 int first = Numbers.width(cells[0]);
-                takeIfLess(STEPS, first, widestStep, 2 + first + (n - 1) * widestStep);
+                offer(STEPS, first, widestStep, 2 + first + (n - 1) * widestStep);
             }
-            takeIfLess(RUNS, widest, NO_SUCH, 1 + runs * (1 + widest));
+            offer(RUNS, widest, NO_SUCH, 1 + runs * (1 + widest));
         }
 
         int tell(int what) {
@@ -1314,17 +1317,14 @@ public final class RowMarshal {
             }
         }
 
-        private void takeIfLess(int newMode, int newW, int newD, int newSize) {
+        /** Of like ones the first that is offered stays. */
+        private void offer(int newMode, int newW, int newD, int newSize) {
             if (newSize < size) {
-                take(newMode, newW, newD, newSize);
+                mode = newMode;
+                w = newW;
+                d = newD;
+                size = newSize;
             }
-        }
-
-        private void take(int newMode, int newW, int newD, int newSize) {
-            mode = newMode;
-            w = newW;
-            d = newD;
-            size = newSize;
         }
     }
 
@@ -1788,17 +1788,16 @@ public final class RowMarshal {
             if (field.needed) {
                 return NEEDED;
             }
-            rows[k] = field.hasDefault ? rowByDefault(field) : null;
-            return 0;
-        }
-
-        private static Row rowByDefault(Field field) {
-            Row row = new Row(field.kind, field.cells);
-            long value = Numbers.byLong(field.kind, field.number);
-            for (int i = 0; i < row.size(); i++) {
-                row.put(i, field.kind, value);
+            rows[k] = null;
+            if (field.hasDefault) {
+                Row row = new Row(field.kind, field.cells);
+                long value = Numbers.byLong(field.kind, field.number);
+                for (int i = 0; i < row.size(); i++) {
+                    row.values[i] = value;
+                }
+                rows[k] = row;
             }
-            return row;
+            return 0;
         }
     }
 

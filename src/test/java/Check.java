@@ -1,8 +1,12 @@
+import java.util.HashMap;
+import java.util.Map;
+
 /** Counts answers that are not due, and ends the program with 1 if there was one. */
 final class Check {
     private int wrong = 0;
     private int asked = 0;
     private String about = "";
+    private final Map<String, Integer> answers = new HashMap<>();
 
     void about(String newAbout) {
         about = newAbout;
@@ -10,6 +14,9 @@ final class Check {
 
     void due(String call, long got, long want) {
         asked++;
+        if (want >= -21 && want < 8) {
+            answers.merge(call.split(" ")[0] + " " + want, 1, Integer::sum);
+        }
         if (got != want) {
             wrong++;
             if (wrong <= 40) {
@@ -24,6 +31,11 @@ final class Check {
             wrong++;
             System.out.println(about + ": " + call + " answered " + got + ", due is " + want);
         }
+    }
+
+    /** How often an answer was due, by the call's first word and the answer. */
+    int times(String answer) {
+        return answers.getOrDefault(answer, 0);
     }
 
     void end() {
@@ -83,19 +95,16 @@ final class Check {
         fill(x, all);
     }
 
-    /** Lays bytes on THE WIRE, over FRAMES that are packed for their room alone. */
+    /** Lays bytes on THE WIRE, over FRAMES packed for their room alone; SLOT 7 holds NOTHING then. */
     static void fill(RowMarshal x, int... all) {
         x.cut(0);
-        x.image();
-        for (int s = 0; s < 8; s++) {
-            x.thing(s, 0);
-        }
-        define(x, 5, "a:bit");
+        x.thing(7, 0);
+        define(x, 5, "h:bit");
         for (int i = 0; i < 100 && x.wire(-1) < all.length; i++) {
             x.pack(5);
         }
-        byte[] room = new byte[0];
-        x.cut(Math.min(all.length, x.wire(-1)));
+        x.drop(5);
+        x.cut(all.length);
         for (int i = 0; i < all.length; i++) {
             x.poke(i, all[i]);
         }
