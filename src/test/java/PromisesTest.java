@@ -228,6 +228,40 @@ public final class PromisesTest {
         due("kind", x.write(3, 0, -1, 1), -1);
     }
 
+    /** Numbers that lie between two floats or doubles, and at their halves. */
+    private void eightNearest() {
+        promise(8);
+        for (int top = 0; top < 64; top++) {
+            x = new RowMarshal();
+            x.make(0, 6, 1);
+            x.make(1, 7, 1);
+            for (int low = 0; low < top; low++) {
+                for (int more = -1; more < 2; more++) {
+                    long v = (1L << top) + (1L << low) + more;
+                    x.write(0, 0, 5, v);
+                    cell(0, 0, 6, Float.floatToIntBits((float) v));
+                    x.write(1, 0, 5, -v);
+                    cell(1, 0, 7, Double.doubleToLongBits((double) -v));
+                }
+            }
+        }
+    }
+
+    /** Floats of every size, laid on THE WIRE, as doubles. */
+    private void sixSubnormal() {
+        promise(6);
+        bodies("a:float");
+        int[] bits = {1, 2, 3, 0x7FFFFF, 0x400000, 0x800000, 0x80000001, 0x807FFFFF, 0x7F7FFFFF,
+            0xFF7FFFFF, 0x80000000, 0x3EAAAAAB};
+        for (int one : bits) {
+            Check.wireOf(x, 0, 1, 4, one >>> 24, one >> 16 & 255, one >> 8 & 255, one & 255);
+            due("load", x.load(0, 0), 10);
+            due("read", x.read(0, 0, 7), 1);
+            due("value", x.latch(1), Double.doubleToLongBits(Float.intBitsToFloat(one)));
+            cell(0, 0, 6, one);
+        }
+    }
+
     private void nine() {
         promise(9);
         int[] some = {1, -1, 2, 3, -3, 7, 10, 16777217, 33554433, 123456789, HIGH, LOW, LOW + 1, 0};
@@ -348,6 +382,7 @@ public final class PromisesTest {
         faultAt("a:", 2);
         faultAt("a:in", 2);
         faultAt("a:inta", 2);
+        faultAt("a:intz", 2);
         faultAt("a:[2]", 2);
         faultAt("a:Int", 2);
         faultAt("a:int ", 5);
@@ -794,6 +829,7 @@ public final class PromisesTest {
         lost(6, 2, 1, 1, 255);
         lost(6, 2, 1, 3, 1, 0, 0);
         lost(0, 0, 1, 3, 0, 255, 255);
+        lost(0, 0, 1, 0);
         bodies("a:float");
         lost(6, 2, 1, 4, 0x7F, 0x80, 0, 0);
         lost(6, 2, 1, 4, 0xFF, 0x80, 0, 0);
@@ -807,6 +843,7 @@ public final class PromisesTest {
         lost(0, 0, 1, 8, 0x7F, 0xEF, 0, 0, 0, 0, 0, 1);
         bodies("a:long[2]");
         lost(0, 0, 1, 0x18, 1, 0x7F, 255, 255, 255, 255, 255, 255, 255, 1);
+        lost(0, 0, 1, 0x10, 8, 0x80, 0, 0, 0, 0, 0, 0, 0);
         bodies("a:box[2]");
         lost(0, 0, 1, 0, 0);
         lost(4, 1, 1, 1, 0, 0);
@@ -820,6 +857,8 @@ public final class PromisesTest {
         lost(5, 3, 1, 0x52, 0);
         lost(5, 2, 1, 0);
         lost(7, 3, 1, 0, 0, 0);
+        lost(0, 0, 1, 0, 0x88, 0x7F, 0xEF, 255, 255, 255, 255, 255, 255);
+        lost(0, 0, 1, 0, 0x68, 0x80, 0, 0, 0, 0, 0, 0, 0);
     }
 
     private void twentyFive() {
@@ -1037,6 +1076,15 @@ public final class PromisesTest {
         define(4, "d:int", 1);
         due("a, b, f, g are others", x.trip(4, 3), 1 + 1 + 2 + 8);
         due("a, b go", x.trip(4, 0), 2 + 8);
+        x = new RowMarshal();
+        define(0, "a:int[]", 1);
+        define(1, "a:byte[]", 1);
+        row(0, 4, 1, 2);
+        due("not lax", x.trip(0, 1), -20);
+        x.lax(1);
+        due("lax", x.trip(0, 1), 2);
+        x.write(0, 1, 4, 128);
+        due("range", x.trip(0, 1), -20);
     }
 
     private void thirtyOneFull() {
@@ -1053,6 +1101,12 @@ public final class PromisesTest {
         due("full", x.trip(0, 2), -4);
         due("refused is named first", x.trip(0, 1), -20);
         due("trip", x.trip(2, 2), 32);
+        define(3, "a:long[];b:long[];c:box[]", 3);
+        row(1, 5, java.util.Arrays.copyOf(wild, 14));
+        x.make(2, 8, 4);
+        due("a body of 250", x.trip(3, 3), 16 + 14 + 4);
+        x.make(2, 8, 5);
+        due("one of 251", x.trip(3, 3), -4);
     }
 
     private void thirtyTwo() {
@@ -1085,6 +1139,15 @@ public final class PromisesTest {
         row(2, 6, 0);
         x.real(1, 0, 7, 0, -1);
         due("noughts", x.alike(1, 2), -5);
+        due("a nought and none", x.alike(1, 0), 0);
+        row(2, 6, 1);
+        due("none and a nought", x.alike(1, 2), 0);
+        row(2, 0, 0);
+        x.make(3, 8, 1);
+        due("a bit and missing", x.alike(2, 3), 0);
+        x.box(3, 0, 4, 0);
+        due("a bit and nought", x.alike(3, 2), 0);
+        x.make(2, 6, 1);
         x.real(1, 0, 7, 1, 3);
         x.real(2, 0, 6, 1, 3);
         due("a third", x.alike(1, 2), 0);
@@ -1189,6 +1252,8 @@ public final class PromisesTest {
         x.make(1, 8, 3);
         x.thing(2, 1);
         x.same(3, 2);
+        x.same(6, 2);
+        define(0, "a:int[]", 1);
         define(1, "a:int[];e:bit", 2);
         define(4, "b:int[]", 1);
         Check.feed(x, "ab");
@@ -1213,7 +1278,7 @@ public final class PromisesTest {
         x.read(8, 0, 0);
         x.real(0, 0, 7, 1, 0);
         // load() has given a a ROW of its own, beside the one that f holds, and b NOTHING
-        int[] told = {2, 2, 2, 4, 2, 2, 18, 13, 2, 3, 3};
+        int[] told = {2, 3, 2, 4, 3, 2, 18, 13, 2, 3, 3};
         for (int what = 0; what < told.length; what++) {
             due("count " + what, x.count(what), told[what]);
         }
@@ -1233,8 +1298,10 @@ public final class PromisesTest {
         four();
         five();
         six();
+        sixSubnormal();
         seven();
         eight();
+        eightNearest();
         nine();
         ten();
         eleven();
