@@ -1295,7 +1295,6 @@ public final class RowMarshal {
                     widestStep = Math.max(widestStep, Numbers.width(cells[i] - cells[i - 1]));
                 }
             }
-            size = Integer.MAX_VALUE;
             offer(PLAIN, widest, NO_SUCH, 1 + n * widest);
             if (n >= 2) {
                 int first = Numbers.width(cells[0]);
@@ -1317,9 +1316,9 @@ public final class RowMarshal {
             }
         }
 
-        /** Of like ones the first that is offered stays. */
+        /** PLAIN is offered first, and taken till one is shorter; of like ones the first stays. */
         private void offer(int newMode, int newW, int newD, int newSize) {
-            if (newSize < size) {
+            if (newMode == PLAIN || newSize < size) {
                 mode = newMode;
                 w = newW;
                 d = newD;

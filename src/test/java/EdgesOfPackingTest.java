@@ -218,6 +218,11 @@ public final class EdgesOfPackingTest extends Scene {
         }
         packs("01" + "22" + "0f" + "ff38" + "01" + "0005");
         plan(2, 2, NO_SUCH, 7);
+        sentence("==== 3: MODE 2 RUNS, a run of one at the begin, in the midst, at the end");
+        define(0, "a:int[14]");
+        row(0, INT, 9, 5, 5, 5, 5, 5, 70, 5, 5, 5, 5, 5, 5, 9);
+        packs("01" + "21" + "0109" + "0505" + "0146" + "0605" + "0109");
+        plan(2, 1, NO_SUCH, 11);
         sentence("==== 3: MODE 2 RUNS, like ones that aren't behind each other are two runs");
         define(0, "a:int[5]");
         row(0, INT, 9, 9, 70, 9, 9);

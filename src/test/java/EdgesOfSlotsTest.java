@@ -370,6 +370,17 @@ public final class EdgesOfSlotsTest extends Scene {
         x.real(0, 0, FLOAT, 1, 3);
         due("read", x.read(0, 0, DOUBLE), 1);
         latched(DOUBLE, Double.doubleToLongBits(1f / 3f));
+        // no number that write() or real() makes is so small, but a FRAME may tell it
+        int[] small = {1, 2, 3, 0x400000, 0x7FFFFF, 0x800000, LOW + 1, LOW + 0x7FFFFF};
+        for (int bits : small) {
+            sentence("==== 1: float to 7, the same number, the smallest ones, too");
+            define(0, "a:float");
+            Check.wireOf(x, 0, 1, 4, bits >>> 24, bits >> 16 & 255, bits >> 8 & 255, bits & 255);
+            due("load", x.load(0, 0), 10);
+            cell(0, 0, FLOAT, bits);
+            due("read", x.read(0, 0, DOUBLE), 1);
+            latched(DOUBLE, Double.doubleToLongBits(Float.intBitsToFloat(bits)));
+        }
     }
 
     private void latch() {
@@ -572,6 +583,9 @@ public final class EdgesOfSlotsTest extends Scene {
         quotient(7, -2);
         quotient(-7, -2);
         quotient(-7, 2);
+        quotient(-1, 3);
+        quotient(1, -1);
+        quotient(-1, -1);
         quotient(1, LOW);
         quotient(LOW, -1);
         quotient(LOW, LOW);
@@ -585,6 +599,8 @@ public final class EdgesOfSlotsTest extends Scene {
         sentence("9: above by below, both as such: each is a float ahead of the division");
         x.make(0, FLOAT, 1);
         x.make(1, DOUBLE, 1);
+        quotient(16777215, 1);
+        quotient(123456789, 1);
         quotient(16777217, 1);
         quotient(1, 16777217);
         quotient(16777217, 16777219);

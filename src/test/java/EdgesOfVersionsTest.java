@@ -209,6 +209,9 @@ public final class EdgesOfVersionsTest extends Scene {
             fault("a:" + word + "s", 2);
             fault("a:" + word + word, 2);
             fault("a:x" + word, 2);
+            fault("a:x" + word.substring(1), 2);
+            fault("a:" + word + "z", 2);
+            fault("a:" + word + "a", 2);
             fault("a:" + word.substring(0, 1) + "?" + word.substring(1), 2);
             fault("a:" + word.substring(0, word.length() - 1) + "z[2]=1!", 2);
             fault("b:bit;a:" + word + "a;c:bit", 8);

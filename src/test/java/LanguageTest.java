@@ -14,7 +14,7 @@ public final class LanguageTest {
         "\\bvar\\b", "\\bvolatile\\b", "\\bnative\\b", "->", "::", "\\bstatic\\s*\\{", "@\\w+",
         "\\bhashCode\\b", "\\bequals\\b", "\\bObject\\b", "\\w\\s*%\\s*\\w", "\\w\\s+/\\s+\\w");
     private static final Set<String> LIBRARY = Set.of("Math.max", "Math.min", "Math.abs",
-        "System.arraycopy", "Long.MIN_VALUE", "Integer.MAX_VALUE");
+        "System.arraycopy", "Long.MIN_VALUE");
 
     private LanguageTest() {
     }
