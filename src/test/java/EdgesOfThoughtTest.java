@@ -501,6 +501,21 @@ public final class EdgesOfThoughtTest extends Scene {
         due("trip", x.trip(0, 0), 16 + 14 + 6);
         big(8);
         due("trip", x.trip(0, 0), FULL);
+        sentence("31: FULL, the longest BODY there can be, of which the READER refuses nothing");
+        define(0, "a:box[];b:box[];c:box[];d:box[];e:box[];f:box[];g:box[];h:box[]");
+        define(1, "h:long[]");
+        x.make(0, BOX, 16);
+        for (int i = 0; i < 16; i++) {
+            x.box(0, i, LONG, Long.MAX_VALUE);
+        }
+        for (int s = 1; s < 8; s++) {
+            x.same(s, 0);
+        }
+        due("trip", x.trip(0, 0), FULL);
+        due("trip", x.trip(0, 1), FULL);
+        x.box(0, 15, BOX, 0);
+        due("the last CELL refuses", x.trip(0, 1), REFUSED);
+        due("trip", x.trip(0, 0), FULL);
         sentence("31: REFUSED is named ahead of FULL: by the WRITER, by the READER");
         big(8);
         define(1, "a:long[16];b:long[14];c:box[];d:int!");
