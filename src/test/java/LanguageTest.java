@@ -1,3 +1,4 @@
+import java.io.DataInputStream;
 import java.io.IOException;
 import java.nio.file.Files;
 import java.nio.file.Path;
@@ -15,6 +16,20 @@ public final class LanguageTest {
         "\\bhashCode\\b", "\\bequals\\b", "\\bObject\\b", "\\w\\s*%\\s*\\w", "\\w\\s+/\\s+\\w");
     private static final Set<String> LIBRARY = Set.of("Math.max", "Math.min", "Math.abs",
         "System.arraycopy", "Long.MIN_VALUE");
+
+    /** What rule 4 lists, as far as the class may come to use it, as the compiled form names it. */
+    private static final Set<String> CALLED = Set.of("java/lang/Object.<init>",
+        "java/lang/String.length", "java/lang/String.charAt", "java/lang/String.isEmpty",
+        "java/lang/String.equals", "java/lang/String.indexOf", "java/lang/String.substring",
+        "java/lang/String.toCharArray", "java/lang/StringBuilder.<init>",
+        "java/lang/StringBuilder.append", "java/lang/StringBuilder.charAt",
+        "java/lang/StringBuilder.setCharAt", "java/lang/StringBuilder.setLength",
+        "java/lang/StringBuilder.deleteCharAt", "java/lang/StringBuilder.reverse",
+        "java/lang/StringBuilder.length", "java/lang/StringBuilder.toString",
+        "java/lang/Math.max", "java/lang/Math.min", "java/lang/Math.abs",
+        "java/lang/System.arraycopy");
+    private static final int UTF8 = 1, LONG = 5, DOUBLE = 6, CLASS = 7, METHOD = 10;
+    private static final int INTERFACE_METHOD = 11, NAME_AND_TYPE = 12, HANDLE = 15;
 
     private LanguageTest() {
     }
@@ -40,6 +55,43 @@ public final class LanguageTest {
         }
     }
 
+    /** Every method outside the class that its compiled form can call is one of CALLED. */
+    private static void library(Check check, Class<?> compiled) throws IOException {
+        String file = compiled.getName() + ".class";
+        try (DataInputStream in = new DataInputStream(compiled.getResourceAsStream(file))) {
+            in.skipBytes(8);
+            int size = in.readUnsignedShort();
+            int[] tags = new int[size];
+            int[] first = new int[size];
+            int[] second = new int[size];
+            String[] texts = new String[size];
+            for (int i = 1; i < size; i++) {
+                tags[i] = in.readUnsignedByte();
+                if (tags[i] == UTF8) {
+                    texts[i] = in.readUTF();
+                } else if (tags[i] == LONG || tags[i] == DOUBLE) {
+                    in.readLong();
+                    i++;
+                } else if (tags[i] == HANDLE) {
+                    in.skipBytes(3);
+                } else {
+                    first[i] = in.readUnsignedShort();
+                    boolean two = tags[i] < CLASS || tags[i] > 8 && tags[i] <= NAME_AND_TYPE
+                        || tags[i] == 17 || tags[i] == 18;
+                    second[i] = two ? in.readUnsignedShort() : 0;
+                }
+            }
+            for (int i = 1; i < size; i++) {
+                if (tags[i] == METHOD || tags[i] == INTERFACE_METHOD) {
+                    String owner = texts[first[first[i]]];
+                    String called = owner + "." + texts[first[second[i]]];
+                    boolean own = owner.startsWith("RowMarshal") || owner.startsWith("[");
+                    check.due("calls " + called, own || CALLED.contains(called) ? 1 : 0, 1);
+                }
+            }
+        }
+    }
+
     public static void main(String[] args) throws IOException {
         Check check = new Check();
         check.about("language");
@@ -61,6 +113,10 @@ public final class LanguageTest {
         Matcher classes = Pattern.compile("\\bclass\\b").matcher(text);
         check.due("classes", classes.results().count() <= 12 ? 1 : 0, 1);
         methods(check, text);
+        library(check, RowMarshal.class);
+        for (Class<?> inside : RowMarshal.class.getDeclaredClasses()) {
+            library(check, inside);
+        }
         check.end();
     }
 }
